@@ -105,6 +105,10 @@ public final class BasketsTest {
     }
 
     private static void promise14SeveralSorts() {
+        TwinOrchard w = withApples(1, 1);
+        w.setSort(0, 9, 0);
+        w.setSort(1, 2, 0);
+        Due.same("9 against 2, of which there is one", w.balance(), 7);
         TwinOrchard x = withApples(1, 3);
         x.setSort(0, 9, 0);
         x.setSort(1, 2, 0);

@@ -116,5 +116,9 @@ public final class HalvesTest {
         Due.same("what is lost counts", x.advise(1), -1);
         put(x, "strength", 0, 1);
         Due.same("the right twin alone has strength", x.advise(1), 101);
+        TwinOrchard y = new TwinOrchard();
+        tree(y, 20, 0, 1, 2);
+        tire(y, 20);
+        Due.same("one apple more is more", y.advise(1), 231);
     }
 }
