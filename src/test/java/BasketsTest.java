@@ -15,32 +15,8 @@ public final class BasketsTest {
         Due.end();
     }
 
-    /** An orchard whose barn holds so many apples of each sort named, and whose tilt is 0. */
-    private static TwinOrchard withApples(int... apples) {
-        TwinOrchard x = new TwinOrchard();
-        for (int sort = 0; sort < apples.length; sort++) {
-            if (apples[sort] > 0) {
-                x.plant(0, 0, sort, 9);
-                while (x.sort(sort, 2) < apples[sort] + 2) {
-                    x.pass(1);
-                }
-                x.fell(0, 0);
-                x.pass(1);
-                lessen(x, sort, apples[sort]);
-            }
-        }
-        return x;
-    }
-
-    private static void lessen(TwinOrchard x, int sort, int apples) {
-        while (x.sort(sort, 2) > apples) {
-            int more = Math.min(200, x.sort(sort, 2) - apples);
-            x.carry(sort, more, 0);
-        }
-    }
-
     private static void promise12Carry() {
-        TwinOrchard x = withApples(18, 0, 5);
+        TwinOrchard x = Orchards.withApples(18, 0, 5);
         Due.same("carry(0, 10, 3)", x.carry(0, 10, 3), 5);
         Due.same("sort(0, 2)", x.sort(0, 2), 5);
         Due.same("another sort stays", x.sort(2, 2), 5);
@@ -51,14 +27,14 @@ public final class BasketsTest {
     }
 
     private static void promise12MostApples() {
-        TwinOrchard x = withApples(401);
+        TwinOrchard x = Orchards.withApples(401);
         Due.same("carry(0, 200, 200)", x.carry(0, 200, 200), 1);
-        TwinOrchard y = withApples(0, 0, 0, 0, 0, 200);
+        TwinOrchard y = Orchards.withApples(0, 0, 0, 0, 0, 200);
         Due.same("carry(5, 0, 200)", y.carry(5, 0, 200), 0);
     }
 
     private static void promise12WrongInputs() {
-        TwinOrchard x = withApples(18);
+        TwinOrchard x = Orchards.withApples(18);
         Due.thrown("carry(-1, 1, 1)", x, INDEX, () -> x.carry(-1, 1, 1));
         Due.thrown("carry(6, 1, 1)", x, INDEX, () -> x.carry(6, 1, 1));
         Due.thrown("carry(6, 201, 1)", x, INDEX, () -> x.carry(6, 201, 1));
@@ -76,7 +52,7 @@ public final class BasketsTest {
     }
 
     private static void promise13Tilt() {
-        TwinOrchard x = withApples(100, 100);
+        TwinOrchard x = Orchards.withApples(100, 100);
         int before = x.tilt();
         x.carry(0, 10, 4);
         Due.same("tilt by weight 3", x.tilt() - before, 18);
@@ -94,42 +70,42 @@ public final class BasketsTest {
 
     private static void promise14OneSort() {
         Due.same("balance of none", new TwinOrchard().balance(), 0);
-        Due.same("balance of 1", withApples(1).balance(), 3);
-        Due.same("balance of 2", withApples(2).balance(), 0);
-        Due.same("balance of 19", withApples(19).balance(), 3);
-        Due.same("balance of 20", withApples(20).balance(), 0);
-        Due.same("balance of 21, of which 20 are taken", withApples(21).balance(), 0);
-        TwinOrchard x = withApples(0, 0, 0, 0, 0, 7);
+        Due.same("balance of 1", Orchards.withApples(1).balance(), 3);
+        Due.same("balance of 2", Orchards.withApples(2).balance(), 0);
+        Due.same("balance of 19", Orchards.withApples(19).balance(), 3);
+        Due.same("balance of 20", Orchards.withApples(20).balance(), 0);
+        Due.same("balance of 21, of which 20 are taken", Orchards.withApples(21).balance(), 0);
+        TwinOrchard x = Orchards.withApples(0, 0, 0, 0, 0, 7);
         x.setSort(5, 9, 4);
         Due.same("balance of 7, weight 9", x.balance(), 9);
     }
 
     private static void promise14SeveralSorts() {
-        TwinOrchard w = withApples(1, 1);
+        TwinOrchard w = Orchards.withApples(1, 1);
         w.setSort(0, 9, 0);
         w.setSort(1, 2, 0);
         Due.same("9 against 2, of which there is one", w.balance(), 7);
-        TwinOrchard x = withApples(1, 3);
+        TwinOrchard x = Orchards.withApples(1, 3);
         x.setSort(0, 9, 0);
         x.setSort(1, 2, 0);
         Due.same("9 against 2 2 2", x.balance(), 3);
-        TwinOrchard y = withApples(1, 3, 1);
+        TwinOrchard y = Orchards.withApples(1, 3, 1);
         y.setSort(0, 9, 0);
         y.setSort(1, 2, 0);
         y.setSort(2, 4, 0);
         Due.same("9 against 2 2 2 4, or 9 2 against 2 2 4", y.balance(), 1);
-        TwinOrchard z = withApples(1, 25, 2);
+        TwinOrchard z = Orchards.withApples(1, 25, 2);
         z.setSort(0, 1, 0);
         z.setSort(1, 8, 0);
         z.setSort(2, 6, 0);
         Due.same("1 against much that is even", z.balance(), 1);
-        TwinOrchard u = withApples(1, 1, 1, 1, 1, 1);
+        TwinOrchard u = Orchards.withApples(1, 1, 1, 1, 1, 1);
         int[] weights = {9, 9, 9, 8, 8, 8};
         for (int sort = 0; sort < weights.length; sort++) {
             u.setSort(sort, weights[sort], 0);
         }
         Due.same("9 9 8 against 9 8 8", u.balance(), 1);
-        TwinOrchard v = withApples(20, 20, 20, 20, 20, 20);
+        TwinOrchard v = Orchards.withApples(20, 20, 20, 20, 20, 20);
         for (int sort = 0; sort < 6; sort++) {
             v.setSort(sort, 9, 0);
         }
@@ -139,7 +115,7 @@ public final class BasketsTest {
     }
 
     private static void promise14NothingChanged() {
-        TwinOrchard x = withApples(30, 3);
+        TwinOrchard x = Orchards.withApples(30, 3);
         long before = x.digest();
         x.balance();
         Due.same("digest behind balance()", x.digest(), before);

@@ -6,8 +6,16 @@ final class Due {
 
     private static int wrong = 0;
     private static int asked = 0;
+    private static int sentences = 0;
+    private static String told = "";
 
     private Due() {
+    }
+
+    /** The document's sentence that the answers from here on are due by; a wrong one is told with it. */
+    static void sentence(String where, String words) {
+        sentences++;
+        told = where + ", \"" + words + "\": ";
     }
 
     static void same(String call, long got, long want) {
@@ -24,25 +32,33 @@ final class Due {
         }
     }
 
-    /** The call throws just this exception, and changes nothing that the digest tells. */
-    static void thrown(String call, TwinOrchard orchard, Class<?> want, Call made) {
+    static void sameClass(String call, Class<?> got, Class<?> want) {
         asked++;
-        long before = orchard.digest();
-        Class<?> got = null;
-        try {
-            made.answer();
-        } catch (RuntimeException e) {
-            got = e.getClass();
-        }
         if (got != want) {
             tell(call + " threw " + got + ", due is " + want);
         }
+    }
+
+    /** The call throws just this exception, and changes nothing that the digest tells. */
+    static void thrown(String call, TwinOrchard orchard, Class<?> want, Call made) {
+        long before = orchard.digest();
+        sameClass(call, thrownBy(made), want);
         same(call + " leaves the digest", orchard.digest(), before);
+    }
+
+    /** The class of what the call throws, null if it answers. */
+    static Class<?> thrownBy(Call made) {
+        try {
+            made.answer();
+            return null;
+        } catch (RuntimeException e) {
+            return e.getClass();
+        }
     }
 
     static void tell(String what) {
         wrong++;
-        System.out.println(what);
+        System.out.println(told + what);
     }
 
     static int wrongSoFar() {
@@ -50,7 +66,8 @@ final class Due {
     }
 
     static void end() {
-        System.out.println(asked + " answers, " + wrong + " of them wrong");
+        String of = sentences == 0 ? "" : " for " + sentences + " sentences";
+        System.out.println(asked + " answers" + of + ", " + wrong + " of them wrong");
         System.exit(wrong == 0 && asked > 0 ? 0 : 1);
     }
 }

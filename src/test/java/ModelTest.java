@@ -1,10 +1,10 @@
 /**
- * Promises 1 to 19: runs of 512 calls, each answered by PlainOrchard too. The calls come from a
- * fixed row of numbers, so that every run of this test makes the same ones.
+ * Promises 1 to 19: runs of 512 calls, every second one digest(), each answered by PlainOrchard
+ * too. The calls come from a fixed row of numbers, so that every run of this test makes the same ones.
  */
 public final class ModelTest {
-    private static final int RUNS = 120;
-    private static final int CALLS = 512;
+    private static final int RUNS = 240;
+    private static final int CALLS = 256;
 
     private long state;
     private TwinOrchard x;

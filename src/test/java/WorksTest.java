@@ -33,15 +33,6 @@ public final class WorksTest {
         Due.same("count(2)", x.count(2), due);
     }
 
-    /** Tired trees with 5 branches, of vigour 9 and sort 0, at the ends of row 0. */
-    private static TwinOrchard withTiredTrees() {
-        TwinOrchard x = new TwinOrchard();
-        x.plant(0, 0, 0, 9);
-        x.pass(2);
-        pair(x, 0, 0, 1, 5, 9, 0, 1, 11);
-        return x;
-    }
-
     private static void promise4Plant() {
         TwinOrchard x = new TwinOrchard();
         Due.same("plant(0, 0, 0, 1)", x.plant(0, 0, 0, 1), 3);
@@ -54,7 +45,7 @@ public final class WorksTest {
         pair(x, 0, 7, 1, 1, 1, 0, 0, 1);
         strengths(x, 10);
         Due.same("trees", x.count(3), 4);
-        TwinOrchard y = withTiredTrees();
+        TwinOrchard y = Orchards.tired();
         y.fell(0, 0);
         Due.same("plant where tired trees stood", y.plant(0, 0, 2, 4), 3);
         pair(y, 0, 0, 1, 1, 4, 2, 0, 4);
@@ -68,7 +59,7 @@ public final class WorksTest {
         strengths(x, 0);
         Due.same("plant without strength", x.plant(4, 3, 1, 2), 0);
         pair(x, 4, 3, 0, 0, 0, -1, 0, 0);
-        TwinOrchard y = withTiredTrees();
+        TwinOrchard y = Orchards.tired();
         for (int cut = 0; cut < 4; cut++) {
             y.prune(0, 0, 1);
         }
@@ -80,7 +71,7 @@ public final class WorksTest {
     }
 
     private static void promise4WrongInputs() {
-        TwinOrchard x = withTiredTrees();
+        TwinOrchard x = Orchards.tired();
         Due.thrown("plant(-1, 0, 0, 1)", x, INDEX, () -> x.plant(-1, 0, 0, 1));
         Due.thrown("plant(5, 0, 0, 1)", x, INDEX, () -> x.plant(5, 0, 0, 1));
         Due.thrown("plant(1, -1, 0, 1)", x, INDEX, () -> x.plant(1, -1, 0, 1));
@@ -95,7 +86,7 @@ public final class WorksTest {
     }
 
     private static void promise5Prune() {
-        TwinOrchard x = withTiredTrees();
+        TwinOrchard x = Orchards.tired();
         Due.same("prune of more than there are", x.prune(0, 0, 6), 0);
         pair(x, 0, 0, 1, 5, 9, 0, 1, 11);
         Due.same("prune(0, 0, 2)", x.prune(0, 0, 2), 3);
@@ -136,7 +127,7 @@ public final class WorksTest {
     }
 
     private static void promise5WrongInputs() {
-        TwinOrchard x = withTiredTrees();
+        TwinOrchard x = Orchards.tired();
         Due.thrown("prune(-1, 0, 1)", x, INDEX, () -> x.prune(-1, 0, 1));
         Due.thrown("prune(5, 0, 1)", x, INDEX, () -> x.prune(5, 0, 1));
         Due.thrown("prune(0, -1, 1)", x, INDEX, () -> x.prune(0, -1, 1));
@@ -148,7 +139,7 @@ public final class WorksTest {
     }
 
     private static void promise6Graft() {
-        TwinOrchard x = withTiredTrees();
+        TwinOrchard x = Orchards.tired();
         Due.same("graft with the own sort", x.graft(0, 0, 0), 0);
         strengths(x, 20);
         Due.same("graft(0, 7, 3)", x.graft(0, 7, 3), 3);
@@ -175,18 +166,18 @@ public final class WorksTest {
     }
 
     private static void promise6StrengthGivesOut() {
-        TwinOrchard x = withTiredTrees();
+        TwinOrchard x = Orchards.tired();
         for (int sort = 1; sort <= 5; sort++) {
             Due.same("graft(0, 0, " + sort + ")", x.graft(0, 0, sort), 3);
         }
         strengths(x, 0);
-        TwinOrchard y = withTiredTrees();
+        TwinOrchard y = Orchards.tired();
         y.plant(1, 0, 0, 1);
         y.fell(0, 0);
         y.fell(1, 0);
         strengths(y, 3);
         Due.same("graft with 3 needs a tree", y.graft(0, 0, 1), 0);
-        TwinOrchard z = withTiredTrees();
+        TwinOrchard z = Orchards.tired();
         z.plant(1, 0, 0, 1);
         z.plant(2, 0, 0, 1);
         z.plant(3, 0, 0, 1);
@@ -198,7 +189,7 @@ public final class WorksTest {
     }
 
     private static void promise6WrongInputs() {
-        TwinOrchard x = withTiredTrees();
+        TwinOrchard x = Orchards.tired();
         Due.thrown("graft(-1, 0, 1)", x, INDEX, () -> x.graft(-1, 0, 1));
         Due.thrown("graft(5, 0, 1)", x, INDEX, () -> x.graft(5, 0, 1));
         Due.thrown("graft(0, -1, 1)", x, INDEX, () -> x.graft(0, -1, 1));
@@ -208,7 +199,7 @@ public final class WorksTest {
     }
 
     private static void promise7Fell() {
-        TwinOrchard x = withTiredTrees();
+        TwinOrchard x = Orchards.tired();
         Due.same("fell(0, 7)", x.fell(0, 7), 3);
         pair(x, 0, 0, 0, 0, 0, -1, 0, 0);
         strengths(x, 14);
@@ -242,7 +233,7 @@ public final class WorksTest {
     }
 
     private static void promise7WrongInputs() {
-        TwinOrchard x = withTiredTrees();
+        TwinOrchard x = Orchards.tired();
         Due.thrown("fell(-1, 0)", x, INDEX, () -> x.fell(-1, 0));
         Due.thrown("fell(5, 0)", x, INDEX, () -> x.fell(5, 0));
         Due.thrown("fell(0, -1)", x, INDEX, () -> x.fell(0, -1));
