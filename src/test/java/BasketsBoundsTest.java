@@ -163,11 +163,11 @@ public final class BasketsBoundsTest {
         x.setSort(0, 9, 4);
         x.pass(30);
         x.pass(30);
-        for (int call = 1; call <= 200; call++) {
+        for (int call = 1; call <= 150; call++) {
             x.carry(0, 0, 200);
             Due.same("the most at a time, " + call + " times", x.tilt(), -1800L * call);
         }
-        for (int call = 1; call <= 200; call++) {
+        for (int call = 1; call <= 150; call++) {
             x.carry(0, 200, 0);
         }
         Due.same("the same again in left baskets", x.tilt(), 0);

@@ -52,6 +52,8 @@ final class Corners {
     }
 
     static void of(String name, Method method, More more, Allowed... allowed) {
+        Due.sentence("Terms, " + name, "A method that throws an exception changes nothing. If several exceptions "
+                + "apply, the one that is named first is thrown.");
         new Corners(name, method, more, Orchards::rich, allowed).from(0, new int[allowed.length]);
         new Corners(name + " of a new object", method, more, TwinOrchard::new, allowed).from(0, new int[allowed.length]);
     }

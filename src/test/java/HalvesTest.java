@@ -11,7 +11,16 @@ public final class HalvesTest {
         differences();
         leaning();
         advice();
+        placesOfOneTwin();
+        costsOfOneTwin();
+        boundsOfOneTree();
+        allPairsDiffer();
+        leaningMost();
         Due.end();
+    }
+
+    private interface Work {
+        int done(TwinOrchard x, int place);
     }
 
     private static Object rowsOf(TwinOrchard x, String name) throws ReflectiveOperationException {
@@ -120,5 +129,96 @@ public final class HalvesTest {
         tree(y, 20, 0, 1, 2);
         tire(y, 20);
         Due.same("one apple more is more", y.advise(1), 231);
+    }
+
+    private static void placesOfOneTwin() throws ReflectiveOperationException {
+        Due.sentence("Twins", "the left twin works at the places 0 to 3, the right one at 4 to 7");
+        for (int place = 0; place <= 7; place++) {
+            TwinOrchard x = new TwinOrchard();
+            put(x, "strength", 0, 0);
+            Due.same("the right twin alone, asked at " + place, x.plant(2, place, 0, 1), place <= 3 ? 2 : 1);
+            Due.same("its tree", x.tree(2, Math.max(place, 7 - place), 0), 1);
+            Due.same("no tree at the left", x.tree(2, Math.min(place, 7 - place), 0), 0);
+            TwinOrchard y = new TwinOrchard();
+            put(y, "strength", 1, 0);
+            Due.same("the left twin alone, asked at " + place, y.plant(2, place, 0, 1), place <= 3 ? 1 : 2);
+            Due.same("its tree", y.tree(2, Math.min(place, 7 - place), 0), 1);
+            Due.same("no tree at the right", y.tree(2, Math.max(place, 7 - place), 0), 0);
+        }
+    }
+
+    private static void costsOfOneTwin() throws ReflectiveOperationException {
+        Due.sentence("Work", "each one for itself, if there it can be done, and the own strength is enough for its cost");
+        costs("plant", 5, (x, place) -> x.plant(1, place, 1, 1));
+        costs("prune", 2, (x, place) -> x.prune(0, place, 1));
+        costs("graft", 4, (x, place) -> x.graft(0, place, 1));
+        costs("fell", 6, (x, place) -> x.fell(0, place));
+    }
+
+    /** One twin has just the strength of the cost, the other one has one less. */
+    private static void costs(String name, int cost, Work work) throws ReflectiveOperationException {
+        int[] asked = {0, 7};
+        for (int place : asked) {
+            for (int able = 0; able <= 1; able++) {
+                TwinOrchard x = Orchards.grown(9, 1);
+                put(x, "strength", able, cost);
+                put(x, "strength", 1 - able, cost - 1);
+                boolean own = able == 0 == (place == 0);
+                Due.same(name + " at " + place + " by the twin " + able, work.done(x, place), own ? 1 : 2);
+                Due.same("the strength of the one that did it", x.count(1 + able), 0);
+                Due.same("the strength of the other one", x.count(2 - able), cost - 1);
+                Due.same("pairs that differ", x.count(7), 1);
+            }
+        }
+    }
+
+    private static void boundsOfOneTree() throws ReflectiveOperationException {
+        Due.sentence("Work", "if there it can be done");
+        TwinOrchard x = new TwinOrchard();
+        tree(x, 16, 1, 2, 4);
+        tree(x, 23, 1, 2, 3);
+        Due.same("prune of 4 of 4, and of 3", x.prune(2, 0, 4), 1);
+        Due.same("prune of 3 of 0, and of 3", x.prune(2, 0, 3), 2);
+        Due.same("prune of 1 of 0, and of 0", x.prune(2, 0, 1), 0);
+        put(x, "branches", 23, 1);
+        Due.same("graft with no branch, and with one", x.graft(2, 7, 0), 1);
+        put(x, "branches", 16, 9);
+        Due.same("graft of another sort, and of the same", x.graft(2, 7, 0), 2);
+        Due.same("half of 9", x.tree(2, 0, 1), 4);
+        Due.same("fell of both", x.fell(2, 0), 3);
+    }
+
+    private static void allPairsDiffer() throws ReflectiveOperationException {
+        Due.sentence("Promise 10", "7 pairs of a place and its mirror that differ: in that there is a tree, or in its sort or branches");
+        TwinOrchard x = new TwinOrchard();
+        for (int row = 0; row <= 4; row++) {
+            for (int place = 0; place <= 3; place++) {
+                tree(x, row * 8 + place, 0, 1, 0);
+                Due.same("pairs that differ", x.count(7), row * 4 + place + 1);
+            }
+        }
+        for (int row = 0; row <= 4; row++) {
+            for (int place = 4; place <= 7; place++) {
+                tree(x, row * 8 + place, 5, 1, 9);
+            }
+        }
+        Due.same("all in their sort and branches", x.count(7), 20);
+    }
+
+    private static void leaningMost() throws ReflectiveOperationException {
+        Due.sentence("Promise 11", "Returns the apples that its left half (places 0 to 3) would bear now, less those of its right half.");
+        for (int row = 0; row <= 4; row++) {
+            TwinOrchard x = new TwinOrchard();
+            TwinOrchard y = new TwinOrchard();
+            for (int place = 0; place <= 3; place++) {
+                tree(x, row * 8 + place, 0, 9, 9);
+                tree(y, row * 8 + 4 + place, 0, 9, 9);
+            }
+            Due.same("the left half full, the right one empty", x.leans(row), 324);
+            Due.same("the right half full, the left one empty", y.leans(row), -324);
+            Due.same("another row", x.leans((row + 1) % 5), 0);
+            long due = y.digest();
+            Due.same("leans() changes nothing", y.leans(row) + y.digest(), due - 324);
+        }
     }
 }

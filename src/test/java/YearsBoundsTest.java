@@ -182,12 +182,21 @@ public final class YearsBoundsTest {
         return x;
     }
 
+    /** Rested, of the vigour 3 and with 9 branches, of which a frost takes one in the third year ahead. */
+    private static TwinOrchard muchToPrune() {
+        TwinOrchard x = Orchards.grown(9, 3);
+        x.setFrost((x.count(0) + 2) % 10, 5);
+        return x;
+    }
+
     private static void promise17Years() {
         Due.sentence("Promise 17", "Looks for the pruning that had best be asked for now, so that the most apples are borne in so many years");
         for (int years = 1; years <= 6; years++) {
             Due.same("advise(" + years + ")", Orchards.rich().advise(years), bestPruning(Orchards::rich, years));
             int due = bestPruning(YearsBoundsTest::coldAhead, years);
             Due.same("advise(" + years + ") from the year 9 on", coldAhead().advise(years), due);
+            due = bestPruning(YearsBoundsTest::muchToPrune, years);
+            Due.same("advise(" + years + ") of 9 branches", muchToPrune().advise(years), due);
             due = bestPruning(Orchards::tired, years);
             Due.same("advise(" + years + ") of one tired pair", Orchards.tired().advise(years), due);
         }
@@ -196,6 +205,8 @@ public final class YearsBoundsTest {
         x.pass(2);
         Due.same("the last row, and the last place of a left half", x.advise(1), 431);
         Due.same("the first row and place", Orchards.tired().advise(1), 1);
+        // No tree and no frosts have a best pruning of more than 4 branches.
+        Due.same("the most branches", muchToPrune().advise(4), 4);
     }
 
     private static void promise17LeastNumber() {
