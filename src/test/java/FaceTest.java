@@ -1,43 +1,104 @@
+import java.io.IOException;
 import java.lang.reflect.Constructor;
+import java.lang.reflect.Executable;
 import java.lang.reflect.Field;
 import java.lang.reflect.Method;
 import java.lang.reflect.Modifier;
-import java.util.Arrays;
+import java.lang.reflect.Parameter;
+import java.nio.file.Files;
+import java.nio.file.Path;
+import java.util.ArrayList;
+import java.util.List;
 import java.util.Set;
 import java.util.TreeSet;
 
-/** The class's face is the document's, and it has no other member that is not private. */
+/**
+ * The class's face is that of the document's code block, and it has no other member that is not
+ * private. The names of parameters are asked for too, so it is compiled with -parameters.
+ */
 public final class FaceTest {
-    private static final String[] FACE = {
-        "int setSort(int, int, int) IndexOutOfBoundsException IllegalArgumentException",
-        "int setFrost(int, int) IndexOutOfBoundsException IllegalArgumentException",
-        "int plant(int, int, int, int) IndexOutOfBoundsException IllegalArgumentException",
-        "int prune(int, int, int) IndexOutOfBoundsException IllegalArgumentException",
-        "int graft(int, int, int) IndexOutOfBoundsException IllegalArgumentException",
-        "int fell(int, int) IndexOutOfBoundsException",
-        "int tree(int, int, int) IndexOutOfBoundsException",
-        "int sort(int, int) IndexOutOfBoundsException",
-        "int count(int) IndexOutOfBoundsException",
-        "int leans(int) IndexOutOfBoundsException",
-        "int carry(int, int, int) IndexOutOfBoundsException IllegalArgumentException IllegalStateException",
-        "int tilt()",
-        "int balance()",
-        "int pass(int) IllegalArgumentException",
-        "int foresee(int, int) IllegalArgumentException IndexOutOfBoundsException",
-        "int advise(int) IllegalArgumentException",
-        "double mean()",
-        "long digest()",
-    };
+    private static final Path DOCUMENT = Path.of("../shared/DOC.md");
+    private static final int CONSTRUCTOR_AND_METHODS = 19;
 
-    public static void main(String[] args) {
+    public static void main(String[] args) throws IOException {
         Class<?> orchard = TwinOrchard.class;
+        List<String> block = codeBlock();
+        Due.sentence("The public face", "public final class TwinOrchard {");
+        Due.same("the document's class line", block.indexOf("public final class TwinOrchard {"), 0);
         Due.same("the class is public and final", orchard.getModifiers(), Modifier.PUBLIC | Modifier.FINAL);
-        methods(orchard);
-        Constructor<?>[] made = orchard.getDeclaredConstructors();
-        Due.same("constructors", made.length, 1);
-        Due.same("its arguments", made[0].getParameterCount(), 0);
-        Due.same("it is public", made[0].getModifiers(), Modifier.PUBLIC);
+        Due.same("it extends Object alone", orchard.getSuperclass() == Object.class ? 1 : 0, 1);
+        Due.same("it implements nothing", orchard.getInterfaces().length, 0);
+        members(orchard, block);
         fields(orchard);
+        inside(orchard);
+        Due.end();
+    }
+
+    /** The lines of the document's code block, trimmed. */
+    private static List<String> codeBlock() throws IOException {
+        List<String> block = new ArrayList<>();
+        boolean within = false;
+        for (String line : Files.readAllLines(DOCUMENT)) {
+            if (line.startsWith("```")) {
+                if (within) {
+                    break;
+                }
+                within = line.equals("```java");
+            } else if (within) {
+                block.add(line.trim());
+            }
+        }
+        return block;
+    }
+
+    private static void members(Class<?> orchard, List<String> block) {
+        Set<String> due = new TreeSet<>();
+        Set<String> names = new TreeSet<>();
+        for (String line : block) {
+            if (line.endsWith(";")) {
+                due.add(line);
+                String before = line.substring(0, line.indexOf('('));
+                names.add(before.substring(before.lastIndexOf(' ') + 1));
+            }
+        }
+        Due.same("constructor and methods of the document", due.size(), CONSTRUCTOR_AND_METHODS);
+        for (Constructor<?> constructor : orchard.getDeclaredConstructors()) {
+            ofTheFace(constructor, "TwinOrchard", due);
+        }
+        for (Method method : orchard.getDeclaredMethods()) {
+            if (Modifier.isPrivate(method.getModifiers())) {
+                Due.same(method + " bears the name of a public one", names.contains(method.getName()) ? 1 : 0, 0);
+            } else {
+                ofTheFace(method, method.getReturnType() + " " + method.getName(), due);
+            }
+        }
+        Due.same("members that are missing: " + due, due.size(), 0);
+    }
+
+    private static void ofTheFace(Executable member, String name, Set<String> due) {
+        String told = told(member, name);
+        Due.same(told + " is of the face", due.remove(told) ? 1 : 0, 1);
+        Due.same(told + " is public alone", member.getModifiers(), Modifier.PUBLIC);
+    }
+
+    /** The member as the document's code block would have it. */
+    private static String told(Executable member, String name) {
+        StringBuilder line = new StringBuilder("public ").append(name).append('(');
+        String between = "";
+        for (Parameter parameter : member.getParameters()) {
+            line.append(between).append(parameter.getType()).append(' ').append(parameter.getName());
+            between = ", ";
+        }
+        line.append(')');
+        between = " throws ";
+        for (Class<?> thrown : member.getExceptionTypes()) {
+            line.append(between).append(thrown.getSimpleName());
+            between = ", ";
+        }
+        return line.append(';').toString();
+    }
+
+    private static void inside(Class<?> orchard) {
         for (Class<?> inside : orchard.getDeclaredClasses()) {
             int modifiers = inside.getModifiers();
             boolean hidden = !Modifier.isPublic(modifiers) && !Modifier.isProtected(modifiers);
@@ -45,38 +106,6 @@ public final class FaceTest {
             Due.same(inside.getName() + " is static", Modifier.isStatic(modifiers) ? 1 : 0, 1);
             fields(inside);
         }
-        Due.end();
-    }
-
-    private static void methods(Class<?> orchard) {
-        Set<String> due = new TreeSet<>(Arrays.asList(FACE));
-        Set<String> names = new TreeSet<>();
-        for (String line : FACE) {
-            names.add(line.substring(line.indexOf(' ') + 1, line.indexOf('(')));
-        }
-        for (Method method : orchard.getDeclaredMethods()) {
-            String told = told(method);
-            if (Modifier.isPrivate(method.getModifiers())) {
-                Due.same(told + " bears the name of a public one", names.contains(method.getName()) ? 1 : 0, 0);
-            } else {
-                Due.same(told + " is of the face", due.remove(told) ? 1 : 0, 1);
-                Due.same(told + " is public alone", method.getModifiers(), Modifier.PUBLIC);
-            }
-        }
-        Due.same("methods that are missing: " + due, due.size(), 0);
-    }
-
-    private static String told(Method method) {
-        StringBuilder line = new StringBuilder();
-        line.append(method.getReturnType()).append(' ').append(method.getName()).append('(');
-        for (int i = 0; i < method.getParameterCount(); i++) {
-            line.append(i == 0 ? "" : ", ").append(method.getParameterTypes()[i]);
-        }
-        line.append(')');
-        for (Class<?> thrown : method.getExceptionTypes()) {
-            line.append(' ').append(thrown.getSimpleName());
-        }
-        return line.toString();
     }
 
     private static void fields(Class<?> kind) {
